@@ -1,0 +1,50 @@
+public final class Promise12SetTest {
+    private static final Check CHECK = new Check();
+
+    public static void main(String[] args) {
+        setsEachNumber();
+        refusesWhereNoneIs();
+        keepsWhatIsLaidOut();
+        CHECK.end();
+    }
+
+    private static void setsEachNumber() {
+        NumberText x = new NumberText();
+        x.table(8, 8);
+        for (int row = 0; row < 8; row++) {
+            for (int column = 0; column < 8; column++) {
+                x.set(row, column, Use.bits(row + 1));
+            }
+        }
+        x.set(3, 5, Use.bits(9));
+        x.set(5, 3, Use.bits(8));
+        x.layout(1);
+        CHECK.due("line 0", Use.line(x, 0), "1  1  1  1  1  1  1  1");
+        CHECK.due("line 3", Use.line(x, 3), "4  4  4  4  4  9  4  4");
+        CHECK.due("line 5", Use.line(x, 5), "6  6  6  8  6  6  6  6");
+        CHECK.due("line 7", Use.line(x, 7), "8  8  8  8  8  8  8  8");
+    }
+
+    private static void refusesWhereNoneIs() {
+        NumberText x = Use.table(3, 1, 2, 3, 4, 5, 6);
+        int[][] wrong = {{2, 0}, {0, 3}, {-1, 0}, {0, -1}, {2, 3}, {7, 0}, {0, 7}, {1, -1},
+            {Integer.MAX_VALUE, 0}, {0, Integer.MAX_VALUE}, {Integer.MIN_VALUE, 0},
+            {0, Integer.MIN_VALUE}, {536870912, 0}};
+        for (int[] at : wrong) {
+            CHECK.dueThrow("set(" + at[0] + ", " + at[1] + ")", IndexOutOfBoundsException.class,
+                    () -> x.set(at[0], at[1], Use.bits(7)));
+        }
+        x.layout(1);
+        CHECK.due("nothing is changed", Use.line(x, 0) + "|" + Use.line(x, 1), "1  2  3|4  5  6");
+    }
+
+    private static void keepsWhatIsLaidOut() {
+        NumberText x = Use.table(1, 1, 2);
+        x.layout(1);
+        x.set(0, 0, Use.bits(77));
+        CHECK.due("line 0 before layout", Use.line(x, 0), "1");
+        CHECK.due("layout(2)", x.layout(2), 2);
+        CHECK.due("line 0", Use.line(x, 0), "77");
+        CHECK.due("line 1", Use.line(x, 1), " 2");
+    }
+}
