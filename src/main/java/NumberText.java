@@ -32,8 +32,10 @@ public final class NumberText {
 
     public NumberText() {
         text = new Text(TEXT_SIZE);
-        numeral = new Numeral();
-        writer = new Writer();
+        // reading and writing never need it at once
+        Fixed fixed = new Fixed();
+        numeral = new Numeral(fixed);
+        writer = new Writer(fixed);
         grid = new Table(writer);
         wrongPlace = NONE;
     }
@@ -280,6 +282,17 @@ public final class NumberText {
             }
         }
 
+        /** Adds the nine digits of a limb in the same way. */
+        void addLimb(int limb) {
+            for (int ten = LIMB / 10; ten > 0; ten /= 10) {
+                int digit = limb / ten % 10;
+                if ((count > 0 || digit > 0) && count < digits.length) {
+                    digits[count] = (byte) digit;
+                    count++;
+                }
+            }
+        }
+
         void movePoint(int by) {
             point += by;
         }
@@ -330,93 +343,147 @@ public final class NumberText {
         }
     }
 
-    /** Works out all the decimal digits of m * 2^e. */
-    private static final class Expander {
-        // the longest, of 2^-1076 times a number of 55 bits, has 769 digits
-        static final int DIGITS = 810;
-        // factors below LIMB, so that a carry always fits into one limb
-        private static final int TWOS = 29;
-        private static final int FIVES = 12;
+    /**
+     * A value, exact, as a row of limbs of nine decimal digits, the highest first, with a point
+     * at a fixed place. Those in use are from the first that is not 0 to the last that is not 0,
+     * or to the point.
+     */
+    private static final class Fixed {
+        // 10^310 in front of the point; behind it, at most, 890 places that were read, and one
+        // more for each of the 1030 halvings that bring such a value to its first bits
+        private static final int POINT = 35;
+        private static final int PLACE_LIMBS = 220;
+        // the most bits by which a limb can be shifted within a long
+        private static final int MOST_BITS = 33;
 
         private final int[] limbs;
-        private int used;
+        private int first;
+        private int end;
 
-        Expander() {
-            limbs = new int[DIGITS / LIMB_DIGITS];
-            used = 0;
+        Fixed() {
+            limbs = new int[POINT + PLACE_LIMBS];
+            first = POINT;
+            end = POINT;
         }
 
-        void expand(Decimal result, long m, int e) {
-            int halvings = Math.max(0, Math.min(Long.numberOfTrailingZeros(m), -e));
-            load(m >>> halvings);
-            int power = e + halvings;
-            for (int left = power; left > 0; left -= TWOS) {
-                multiply(1L << Math.min(left, TWOS));
-            }
-            // m / 2^k is m * 5^k / 10^k
-            for (int left = -power; left > 0; left -= FIVES) {
-                multiply(fiveTo(Math.min(left, FIVES)));
-            }
-            unload(result);
-            result.movePoint(result.count() + Math.min(0, power));
-            result.dropZerosBehind();
-        }
-
-        private void load(long m) {
-            used = 0;
-            long left = m;
-            while (left > 0 && used < limbs.length) {
-                limbs[used] = (int) (left % LIMB);
-                left /= LIMB;
-                used++;
+        void setWhole(long whole) {
+            first = POINT;
+            end = POINT;
+            for (long left = whole; left > 0 && first > 0; left /= LIMB) {
+                first--;
+                limbs[first] = (int) (left % LIMB);
             }
         }
 
-        private static long fiveTo(int k) {
-            long five = 1;
-            for (int i = 0; i < k; i++) {
-                five *= 5;
+        void setDecimal(Decimal decimal) {
+            int point = decimal.point();
+            first = Math.max(0, POINT + Math.floorDiv(-point, LIMB_DIGITS));
+            int last = POINT + Math.floorDiv(decimal.count() - 1 - point, LIMB_DIGITS);
+            end = Math.min(limbs.length, Math.max(POINT, last + 1));
+            for (int i = first; i < end; i++) {
+                limbs[i] = limbOf(decimal, (i - POINT) * LIMB_DIGITS + point);
             }
-            return five;
         }
 
-        private void multiply(long factor) {
+        private static int limbOf(Decimal decimal, int from) {
+            int limb = 0;
+            for (int i = 0; i < LIMB_DIGITS; i++) {
+                limb = 10 * limb + decimal.digit(from + i);
+            }
+            return limb;
+        }
+
+        void addTo(Decimal decimal) {
+            for (int i = first; i < end && i < limbs.length; i++) {
+                decimal.addLimb(limbs[i]);
+            }
+            decimal.movePoint(decimal.count() - (end - POINT) * LIMB_DIGITS);
+        }
+
+        /** Whether the whole part has so many limbs that head() does not tell it. */
+        boolean isAboveHead() {
+            return POINT - first > 2;
+        }
+
+        long head() {
+            return limb(POINT - 2) * LIMB + limb(POINT - 1);
+        }
+
+        boolean hasPlaces() {
+            return end > POINT;
+        }
+
+        private long limb(int i) {
+            return i >= first && i < end && i < limbs.length ? limbs[i] : 0;
+        }
+
+        /** Times 2^power. */
+        void scale(int power) {
+            for (int left = power; left > 0; left -= MOST_BITS) {
+                multiply(Math.min(left, MOST_BITS));
+            }
+            for (int left = -power; left > 0; left -= MOST_BITS) {
+                divide(Math.min(left, MOST_BITS));
+            }
+        }
+
+        private void multiply(int bits) {
             long carry = 0;
-            for (int i = 0; i < used && i < limbs.length; i++) {
-                long product = limbs[i] * factor + carry;
+            for (int i = Math.min(end, limbs.length) - 1; i >= 0; i--) {
+                if (i < first) {
+                    if (carry == 0) {
+                        break;
+                    }
+                    limbs[i] = 0;
+                    first = i;
+                }
+                long product = ((long) limbs[i] << bits) + carry;
                 carry = product / LIMB;
                 limbs[i] = (int) (product - carry * LIMB);
             }
-            if (carry > 0 && used < limbs.length) {
-                limbs[used] = (int) carry;
-                used++;
+            while (end > POINT && limb(end - 1) == 0) {
+                end--;
             }
         }
 
-        private void unload(Decimal result) {
-            result.clear();
-            for (int i = Math.min(used, limbs.length) - 1; i >= 0; i--) {
-                int limb = limbs[i];
-                for (int ten = LIMB / 10; ten > 0; ten /= 10) {
-                    result.add(limb / ten % 10);
+        private void divide(int bits) {
+            long mask = (1L << bits) - 1;
+            long left = 0;
+            for (int i = Math.max(0, first); i < limbs.length; i++) {
+                if (i >= end) {
+                    if (left == 0) {
+                        break;
+                    }
+                    limbs[i] = 0;
+                    end = i + 1;
                 }
+                long dividend = left * LIMB + limbs[i];
+                limbs[i] = (int) (dividend >>> bits);
+                left = dividend & mask;
+            }
+            while (first < end && limb(first) == 0) {
+                first++;
             }
         }
     }
 
     /** Adds numbers to a text, in the document's forms. */
     private static final class Writer {
-        private final Expander expander;
+        // the longest, of 2^-1076 times a number of 55 bits, has 769 digits, and its last limb
+        // up to 8 zeros behind them
+        private static final int EXACT_DIGITS = 780;
+
+        private final Fixed fixed;
         private final Decimal decimal;
         // the bounds of what is read as the number
         private final Decimal low;
         private final Decimal high;
 
-        Writer() {
-            expander = new Expander();
-            decimal = new Decimal(Expander.DIGITS);
-            low = new Decimal(Expander.DIGITS);
-            high = new Decimal(Expander.DIGITS);
+        Writer(Fixed fixed) {
+            this.fixed = fixed;
+            decimal = new Decimal(EXACT_DIGITS);
+            low = new Decimal(EXACT_DIGITS);
+            high = new Decimal(EXACT_DIGITS);
         }
 
         void addShort(Text text, long bits) {
@@ -428,7 +495,7 @@ public final class NumberText {
 
         void addRounded(Text text, long bits, int n) {
             if (addsDigits(text, bits) && !addedZero(text, bits)) {
-                expander.expand(decimal, multiple(bits), power(bits));
+                expand(decimal, multiple(bits), power(bits));
                 decimal.cut(n, decimal.roundsUp(n));
                 addDecimal(text, n);
             }
@@ -436,7 +503,7 @@ public final class NumberText {
 
         void addToPlaces(Text text, long bits, int p) {
             if (addsDigits(text, bits)) {
-                expander.expand(decimal, multiple(bits), power(bits));
+                expand(decimal, multiple(bits), power(bits));
                 int n = decimal.point() + p;
                 if (n < 0) {
                     decimal.clear();
@@ -449,7 +516,7 @@ public final class NumberText {
 
         void addInFull(Text text, long bits) {
             if (addsDigits(text, bits)) {
-                expander.expand(decimal, multiple(bits), power(bits));
+                expand(decimal, multiple(bits), power(bits));
                 addPlaces(text, decimal.leastPlaces());
             }
         }
@@ -458,7 +525,7 @@ public final class NumberText {
         void addScientific(Text text, long bits, int n) {
             decimal.clear();
             if (addsDigits(text, bits) && !addedZero(text, bits)) {
-                expander.expand(decimal, multiple(bits), power(bits));
+                expand(decimal, multiple(bits), power(bits));
                 decimal.cut(n, decimal.roundsUp(n));
                 addWithExponent(text, n);
             }
@@ -491,6 +558,15 @@ public final class NumberText {
             return isZero(bits);
         }
 
+        /** The result becomes m * 2^power, all its digits. */
+        private void expand(Decimal result, long m, int power) {
+            fixed.setWhole(m);
+            fixed.scale(power);
+            result.clear();
+            fixed.addTo(result);
+            result.dropZerosBehind();
+        }
+
         /**
          * The bounds are half-way to the neighbours; the one below is half as far where the
          * power of 2 changes. Quarters of the number's unit make all of them whole multiples.
@@ -499,9 +575,9 @@ public final class NumberText {
             long quarters = 4 * multiple(bits);
             int scale = power(bits) - 2;
             boolean nearBelow = fractionField(bits) == 0 && exponentField(bits) > 1;
-            expander.expand(low, quarters - (nearBelow ? 1 : 2), scale);
-            expander.expand(decimal, quarters, scale);
-            expander.expand(high, quarters + 2, scale);
+            expand(low, quarters - (nearBelow ? 1 : 2), scale);
+            expand(decimal, quarters, scale);
+            expand(high, quarters + 2, scale);
             // a bound itself is read as the neighbour whose F is even
             shorten((fractionField(bits) & 1) == 0);
         }
@@ -592,9 +668,9 @@ public final class NumberText {
         private boolean exponentNegative;
         private int exponent;
 
-        Numeral() {
+        Numeral(Fixed fixed) {
             decimal = new Decimal(TEXT_SIZE);
-            nearest = new Nearest();
+            nearest = new Nearest(fixed);
             state = START;
             negative = false;
             exponentNegative = false;
@@ -702,39 +778,26 @@ public final class NumberText {
     }
 
     /**
-     * Finds the binary number nearest to a decimal. The value is held as head * 2^power, and
-     * what is behind the point of that head in limbs; then all is scaled by powers of 2 until
-     * the head has the number's 53 bits and one more, which tells of the half.
+     * Finds the binary number nearest to a decimal: scales the value by powers of 2 until the
+     * number's 53 bits, and one more that tells of the half, stand in front of the point.
      */
     private static final class Nearest {
         // beyond these points a value is infinite, or nearer to 0 than to any other number
         private static final int MOST_POINT = 310;
         private static final int LEAST_POINT = -324;
-        private static final int WHOLE_LIMBS = 35;
-        private static final int PLACE_LIMBS = 170;
         private static final int HEAD_BITS = 54;
         private static final int LEAST_HEAD_POWER = LEAST_POWER - 1;
         private static final int MOST_HEAD_POWER = 970;
-        private static final int SCALE_BITS = 29;
-        private static final int MOST_SCALINGS = 100;
+        private static final int STEP = 33;
+        private static final int MOST_STEPS = 100;
 
-        // both have their limbs nearest to the point first
-        private final int[] wholes;
-        private final int[] places;
-        private int wholesUsed;
-        private int placesUsed;
-        private long head;
+        private final Fixed fixed;
+        // the value is that of fixed times 2^power
         private int power;
-        private boolean bitsLost;
 
-        Nearest() {
-            wholes = new int[WHOLE_LIMBS];
-            places = new int[PLACE_LIMBS];
-            wholesUsed = 0;
-            placesUsed = 0;
-            head = 0;
+        Nearest(Fixed fixed) {
+            this.fixed = fixed;
             power = 0;
-            bitsLost = false;
         }
 
         long bits(Decimal decimal) {
@@ -744,112 +807,42 @@ public final class NumberText {
             if (decimal.point() > MOST_POINT) {
                 return INFINITE;
             }
-            load(decimal);
-            scaleDown();
-            scaleUp();
-            return rounded();
-        }
-
-        private void load(Decimal decimal) {
-            int point = decimal.point();
-            wholesUsed = 0;
-            for (int i = point - LIMB_DIGITS; i > -LIMB_DIGITS; i -= LIMB_DIGITS) {
-                if (wholesUsed < wholes.length) {
-                    wholes[wholesUsed] = limbFrom(decimal, i);
-                    wholesUsed++;
-                }
-            }
-            placesUsed = 0;
-            for (int i = point; i < decimal.count(); i += LIMB_DIGITS) {
-                if (placesUsed < places.length) {
-                    places[placesUsed] = limbFrom(decimal, i);
-                    placesUsed++;
-                }
-            }
-        }
-
-        private static int limbFrom(Decimal decimal, int first) {
-            int limb = 0;
-            for (int i = first; i < first + LIMB_DIGITS; i++) {
-                limb = 10 * limb + decimal.digit(i);
-            }
-            return limb;
-        }
-
-        /** Takes from a long whole part its first 54 bits, and whether there are ones behind. */
-        private void scaleDown() {
+            fixed.setDecimal(decimal);
             power = 0;
-            bitsLost = false;
-            // divisions that leave 54 bits or more: three limbs are 10^18 or more, above 2^59
-            for (int i = 0; i < MOST_SCALINGS && wholesUsed > 2; i++) {
-                divideWholes(wholesUsed > 3 ? SCALE_BITS : 5);
-            }
-            head = (wholesUsed > 1 ? (long) wholes[1] * LIMB : 0) + (wholesUsed > 0 ? wholes[0] : 0);
-            int extra = bitLength(head) - HEAD_BITS;
-            if (extra > 0) {
-                bitsLost = bitsLost || (head & ((1L << extra) - 1)) != 0;
-                head >>>= extra;
-                power += extra;
-            }
+            scaleToHead();
+            return power > MOST_HEAD_POWER ? INFINITE : rounded();
         }
 
-        private void divideWholes(int bits) {
-            long left = 0;
-            for (int i = Math.min(wholesUsed, wholes.length) - 1; i >= 0; i--) {
-                long dividend = left * LIMB + wholes[i];
-                wholes[i] = (int) (dividend >>> bits);
-                left = dividend & ((1L << bits) - 1);
-                if (i == wholesUsed - 1 && wholes[i] == 0) {
-                    wholesUsed--;
-                }
+        /** Until the head is full, or its unit is the least. */
+        private void scaleToHead() {
+            for (int i = 0; i < MOST_STEPS && fixed.isAboveHead(); i++) {
+                raisePower(STEP);
             }
-            bitsLost = bitsLost || left != 0;
-            power += bits;
-        }
-
-        /** Moves bits from behind the point into the head, until it is full or its unit least. */
-        private void scaleUp() {
-            for (int i = 0; i < MOST_SCALINGS; i++) {
-                int room = Math.min(HEAD_BITS - bitLength(head), power - LEAST_HEAD_POWER);
-                if (room <= 0) {
+            for (int i = 0; i < MOST_STEPS; i++) {
+                int length = 64 - Long.numberOfLeadingZeros(fixed.head());
+                int room = Math.min(HEAD_BITS - length, power - LEAST_HEAD_POWER);
+                if (room == 0) {
                     break;
                 }
-                int bits = Math.min(room, SCALE_BITS);
-                head = (head << bits) + multiplyPlaces(bits);
-                power -= bits;
+                raisePower(-Math.min(room, STEP));
             }
-            bitsLost = bitsLost || placesUsed > 0;
         }
 
-        /** What is carried over the point. */
-        private long multiplyPlaces(int bits) {
-            long carry = 0;
-            for (int i = Math.min(placesUsed, places.length) - 1; i >= 0; i--) {
-                long product = ((long) places[i] << bits) + carry;
-                carry = product / LIMB;
-                places[i] = (int) (product - carry * LIMB);
-                if (i == placesUsed - 1 && places[i] == 0) {
-                    placesUsed--;
-                }
-            }
-            return carry;
+        private void raisePower(int by) {
+            fixed.scale(-by);
+            power += by;
         }
 
         private long rounded() {
-            if (power > MOST_HEAD_POWER) {
-                return INFINITE;
-            }
+            long head = fixed.head();
             long m = head >>> 1;
             boolean half = (head & 1) != 0;
-            if (half && (bitsLost || (m & 1) != 0)) {
+            if (half && (fixed.hasPlaces() || (m & 1) != 0)) {
                 m++;
             }
-            // m has the bit 2^52 of the document in it, which counts E up by one
+            // m has the 2^52 of the document in it, which counts E up by one, or by two if
+            // rounding made it 2^53
             return ((long) (power - LEAST_HEAD_POWER) << FRACTION_BITS) + m;
-        }
-
-        private static int bitLength(long x) {
-            return 64 - Long.numberOfLeadingZeros(x);
         }
     }
 

@@ -10,8 +10,21 @@ final class Check {
 
     void due(String call, String got, String want) {
         if (!got.equals(want)) {
-            tell(call, "'" + got + "'", "'" + want + "'");
+            int same = 0;
+            while (same < Math.min(got.length(), want.length())
+                    && got.charAt(same) == want.charAt(same)) {
+                same++;
+            }
+            tell(call, part(got, same), part(want, same));
         }
+    }
+
+    /** A long text is told by what stands round the first difference. */
+    private static String part(String text, int same) {
+        int from = Math.max(0, same - 60);
+        int to = Math.min(text.length(), same + 60);
+        return (from > 0 ? "[" + from + " ..] '" : "'") + text.substring(from, to)
+                + (to < text.length() ? "' [.. of " + text.length() + "]" : "'");
     }
 
     void dueBits(String call, long got, long want) {
@@ -32,8 +45,9 @@ final class Check {
 
     private void tell(String call, String got, String want) {
         wrong++;
-        if (wrong <= 50) {
-            System.out.println(call + " answered " + got + ", due is " + want);
+        if (wrong <= 20) {
+            String shortCall = call.length() > 200 ? call.substring(0, 200) + " .." : call;
+            System.out.println(shortCall + " answered " + got + ", due is " + want);
         }
     }
 
