@@ -104,6 +104,9 @@ public final class Promise05ReadTest {
         due("1.7976931348623157e308", most);
         due("1.7976931348623158e308", most);
         due("1.7976931348623159e308", INFINITE);
+        due("1.8e308", INFINITE);
+        due("3.5e308", INFINITE);
+        due("7e308", INFINITE);
         due("1e309", INFINITE);
         due("9e310", INFINITE);
         due("-1e400", INFINITE | SIGN);
@@ -139,6 +142,10 @@ public final class Promise05ReadTest {
         due("9007199254740993." + "0".repeat(1182) + "1", 0x4340000000000001L);
         due("9007199254740993." + "0".repeat(1183), 0x4340000000000000L);
         due("." + "3".repeat(1199), 1.0 / 3);
+        // only the last place tells that it is more than half-way
+        String large = half(0x7feffffffffffffcL) + ".";
+        due(large + "0".repeat(1200 - large.length()), 0x7feffffffffffffcL);
+        due(large + "0".repeat(1199 - large.length()) + "1", 0x7feffffffffffffdL);
         due("-" + "4".repeat(1194) + "e-890", -4.444444444444444444e303);
     }
 
@@ -167,6 +174,14 @@ public final class Promise05ReadTest {
         CHECK.dueBits("read() of the next", x.read(), Use.bits(-100));
         Use.type(x, "3");
         CHECK.dueBits("nothing of it is left", x.read(), Use.bits(3));
+        Use.type(x, "25e-2");
+        CHECK.dueBits("read() of the next", x.read(), Use.bits(0.25));
+        Use.type(x, "1e2");
+        CHECK.dueBits("nothing of it is left", x.read(), Use.bits(100));
+        Use.type(x, "-inf");
+        CHECK.dueBits("read() of the next", x.read(), INFINITE | SIGN);
+        Use.type(x, "nan");
+        CHECK.dueBits("nothing of it is left", x.read(), 0x7ff8000000000000L);
     }
 
     private static void refuses(String text, int place) {

@@ -74,7 +74,8 @@ public final class Promise07WriteTest {
         due(0x7fefffffffffffffL, "1.7976931348623157e308");
         due(0x7fe0000000000000L, "8.98846567431158e307");
         // the bounds themselves are read as a number whose F is even
-        due(9007199254740994.0, "9007199254740994");
+        due(18014398509481992.0, "1.801439850948199e16");
+        due(18014398509481988.0, "1.8014398509481988e16");
         due(0x4830f0cf064dd592L, "5.764607523034235e39");
         due(0x4840f0cf064dd592L, "1.152921504606847e40");
         due(0x44b52d02c7e14af6L, "1e23");
