@@ -3,6 +3,7 @@ public final class Promise01NewObjectTest {
         Check check = new Check();
         hasNoText(check);
         hasTableOfOne(check);
+        sharesNothing(check);
         check.end();
     }
 
@@ -26,5 +27,17 @@ public final class Promise01NewObjectTest {
         x.set(0, 0, Use.bits(2.5));
         check.due("layout(2)", x.layout(2), 3);
         check.due("line 0", Use.line(x, 0), "2.5");
+    }
+
+    private static void sharesNothing(Check check) {
+        NumberText used = Use.table(2, 1, 2, 3, 4);
+        used.layout(3);
+        Use.type(used, "12x");
+        check.dueThrow("read()", IllegalArgumentException.class, used::read);
+        hasNoText(check);
+        hasTableOfOne(check);
+        check.due("text", Use.text(used), "12x");
+        check.due("place()", used.place(), 2);
+        check.due("line 1", Use.line(used, 1), "3  4");
     }
 }

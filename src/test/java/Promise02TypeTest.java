@@ -4,6 +4,8 @@ public final class Promise02TypeTest {
     public static void main(String[] args) {
         Check check = new Check();
         typesHighestByteFirst(check);
+        typesOneToEight(check);
+        typesFrom32To126(check);
         refusesWrongCounts(check);
         refusesWrongCharacters(check);
         refusesMoreThan1200(check);
@@ -21,6 +23,35 @@ public final class Promise02TypeTest {
         check.due("character(12)", x.character(12), '~');
         check.due("a blank", x.type(32, 1), 14);
         check.due("character(13)", x.character(13), ' ');
+    }
+
+    /** "Types n characters, the lowest n bytes", n from 1 to 8. */
+    private static void typesOneToEight(Check check) {
+        for (int n = 1; n <= 8; n++) {
+            NumberText x = new NumberText();
+            check.due("type(12..8, " + n + ")", x.type(EIGHT, n), n);
+            check.due("text of " + n, Use.text(x), "12345678".substring(8 - n));
+            check.due("type(12..8, " + n + ") again", x.type(EIGHT, n), 2 * n);
+        }
+    }
+
+    /** "one is not 32 .. 126": each of these can be typed, at each place. */
+    private static void typesFrom32To126(Check check) {
+        for (int c = 0; c < 256; c++) {
+            boolean typed = c >= 32 && c <= 126;
+            NumberText x = new NumberText();
+            int length = 0;
+            for (int n = 1; n <= 8; n++) {
+                for (int i = 0; i < n; i++) {
+                    long characters = EIGHT & ~(255L << 8 * i) | (long) c << 8 * i;
+                    length += typed ? n : 0;
+                    check.due("type() with " + c + " at byte " + i + " of " + n,
+                            x.type(characters, n), typed ? length : NumberText.NONE);
+                    check.due("its character", x.character(length - 1 - i),
+                            typed ? c : NumberText.NONE);
+                }
+            }
+        }
     }
 
     private static void refusesWrongCounts(Check check) {
@@ -64,6 +95,9 @@ public final class Promise02TypeTest {
         x.places(Use.bits(0.25), 1);
         check.due("behind places()", Use.type(x, "5"), 4);
         check.due("text", Use.text(x), "0.25");
+        x.digits(Use.bits(0.5), 2);
+        check.due("behind digits()", Use.type(x, "7"), 5);
+        check.due("text", Use.text(x), "0.507");
         x.full(1);
         check.due("behind full()", x.type(EIGHT, 8), 1084);
     }

@@ -15,6 +15,16 @@ public final class Promise03WipeTest {
         x.layout(1);
         x.wipe();
         check.due("the table stays", Use.line(x, 0), "3");
+        Use.type(x, "7".repeat(1200));
+        check.due("wipe() of a full text", x.wipe(), 1200);
+        check.due("wipe() of none", x.wipe(), 0);
+        check.due("character(1199)", x.character(1199), NumberText.NONE);
+        Use.type(x, "1x");
+        check.dueThrow("read()", IllegalArgumentException.class, x::read);
+        check.due("wipe() of a wrong text", x.wipe(), 2);
+        check.due("the place stays", x.place(), 1);
+        x.full(1);
+        check.due("wipe() of a number in full", x.wipe(), 1076);
         check.end();
     }
 }

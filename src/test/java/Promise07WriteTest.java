@@ -91,5 +91,12 @@ public final class Promise07WriteTest {
         CHECK.due("text", Use.text(x), "5");
         CHECK.due("write(-25)", x.write(Use.bits(-25)), 3);
         CHECK.dueBits("read()", x.read(), Use.bits(-25));
+        Use.type(x, "7".repeat(1200));
+        CHECK.due("write(longest)", x.write(0x8010000000000000L), 24);
+        CHECK.due("text", Use.text(x), "-2.2250738585072014e-308");
+        CHECK.due("write(nan)", x.write(-1L), 3);
+        CHECK.due("text", Use.text(x), "nan");
+        CHECK.due("write(0)", x.write(0), 1);
+        CHECK.due("text", Use.text(x), "0");
     }
 }

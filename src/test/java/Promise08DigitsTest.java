@@ -86,5 +86,13 @@ public final class Promise08DigitsTest {
         CHECK.due("the text stays", Use.text(x), "12");
         CHECK.due("digits(7, 2)", x.digits(Use.bits(7), 2), 3);
         CHECK.due("the text is replaced", Use.text(x), "7.0");
+        CHECK.due("digits(7, 1)", x.digits(Use.bits(7), 1), 1);
+        CHECK.due("text", Use.text(x), "7");
+        CHECK.due("digits(7, 17)", x.digits(Use.bits(7), 17), 18);
+        CHECK.due("text", Use.text(x), "7.0000000000000000");
+        x.wipe();
+        Use.type(x, "7".repeat(1200));
+        CHECK.due("digits(-5e-324, 17)", x.digits(0x8000000000000001L, 17), 24);
+        CHECK.due("text", Use.text(x), "-4.9406564584124654e-324");
     }
 }

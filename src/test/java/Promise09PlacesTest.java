@@ -82,5 +82,10 @@ public final class Promise09PlacesTest {
         CHECK.due("the text stays", Use.text(x), "12");
         CHECK.due("places(7, 2)", x.places(Use.bits(7), 2), 4);
         CHECK.due("the text is replaced", Use.text(x), "7.00");
+        CHECK.due("places(7, 0)", x.places(Use.bits(7), 0), 1);
+        CHECK.due("text", Use.text(x), "7");
+        CHECK.due("places(7, 40)", x.places(Use.bits(7), 40), 42);
+        CHECK.due("text", Use.text(x), "7." + "0".repeat(40));
+        CHECK.due("places(-most, 40)", x.places(0xffefffffffffffffL, 40), 351);
     }
 }

@@ -55,5 +55,10 @@ public final class Promise10FullTest {
         CHECK.due("text", Use.text(x), "2.5");
         CHECK.due("full(4)", x.full(Use.bits(4)), 1);
         CHECK.due("text", Use.text(x), "4");
+        x.wipe();
+        Use.type(x, "7".repeat(1200));
+        CHECK.due("full(-longest) in place of 1200", x.full(0x801fffffffffffffL), 1077);
+        CHECK.dueBits("read() of it", x.read(), 0x801fffffffffffffL);
+        CHECK.due("character(0)", x.character(0), NumberText.NONE);
     }
 }

@@ -5,6 +5,7 @@ public final class Promise11TableTest {
         makesAllSizes();
         startsWithZeros();
         refusesWrongSizes();
+        leavesTheText();
         CHECK.end();
     }
 
@@ -35,6 +36,14 @@ public final class Promise11TableTest {
         x.table(8, 8);
         CHECK.due("layout(1) of 8 x 8", x.layout(1), 22);
         CHECK.due("line 7", Use.line(x, 7), "0  0  0  0  0  0  0  0");
+    }
+
+    private static void leavesTheText() {
+        NumberText x = Use.typed("1x");
+        CHECK.dueThrow("read()", IllegalArgumentException.class, x::read);
+        x.table(8, 8);
+        CHECK.due("text", Use.text(x), "1x");
+        CHECK.due("place()", x.place(), 1);
     }
 
     private static void refusesWrongSizes() {

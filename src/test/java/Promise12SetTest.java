@@ -5,6 +5,7 @@ public final class Promise12SetTest {
         setsEachNumber();
         refusesWhereNoneIs();
         keepsWhatIsLaidOut();
+        knowsItsSize();
         CHECK.end();
     }
 
@@ -36,6 +37,37 @@ public final class Promise12SetTest {
         }
         x.layout(1);
         CHECK.due("nothing is changed", Use.line(x, 0) + "|" + Use.line(x, 1), "1  2  3|4  5  6");
+    }
+
+    /** "when there is no such row or column": in tables of each size. */
+    private static void knowsItsSize() {
+        for (int rows = 1; rows <= 8; rows++) {
+            for (int columns = 1; columns <= 8; columns++) {
+                NumberText x = new NumberText();
+                x.table(rows, columns);
+                for (int row = -1; row <= 8; row++) {
+                    for (int column = -1; column <= 8; column++) {
+                        boolean there = row >= 0 && row < rows && column >= 0 && column < columns;
+                        CHECK.due("set(" + row + ", " + column + ") of " + rows + " x " + columns,
+                                isSet(x, row, column) ? 1 : 0, there ? 1 : 0);
+                    }
+                }
+                CHECK.due("layout(1)", x.layout(1), 3 * columns - 2);
+                String line = "5" + "  5".repeat(columns - 1);
+                CHECK.due("first line", Use.line(x, 0), line);
+                CHECK.due("last line", Use.line(x, rows - 1), line);
+                CHECK.due("line behind", Use.line(x, rows), "");
+            }
+        }
+    }
+
+    private static boolean isSet(NumberText x, int row, int column) {
+        try {
+            x.set(row, column, Use.bits(5));
+            return true;
+        } catch (IndexOutOfBoundsException e) {
+            return false;
+        }
     }
 
     private static void keepsWhatIsLaidOut() {

@@ -104,6 +104,12 @@ public final class Promise13LayoutTest {
             CHECK.dueThrow("layout(" + n + ")", IllegalArgumentException.class, () -> x.layout(n));
         }
         CHECK.due("the lines stay", Use.line(x, 0) + "|" + Use.line(x, 1), "1|2");
+        x.set(0, 0, Use.bits(1.0 / 3));
+        CHECK.due("layout(1)", x.layout(1), 3);
+        CHECK.due("lines", Use.line(x, 0) + "|" + Use.line(x, 1), "0.3|5.0");
+        CHECK.due("layout(17)", x.layout(17), 19);
+        CHECK.due("lines", Use.line(x, 0) + "|" + Use.line(x, 1),
+                "0.33333333333333331|5.00000000000000000");
     }
 
     private static void leavesTheText() {
