@@ -37,7 +37,10 @@ final class Oracle {
 
     /** What a number without digits is; null if it has digits. */
     private static String word(double number) {
-        return Double.isNaN(number) ? "nan" : Double.isInfinite(number) ? sign(number) + "inf" : null;
+        if (Double.isNaN(number)) {
+            return "nan";
+        }
+        return Double.isInfinite(number) ? sign(number) + "inf" : null;
     }
 
     private static BigDecimal exact(double number) {

@@ -138,6 +138,12 @@ public final class TermsDecimalTest {
         digits(Math.nextDown(2.5), 1, "2");
         digits(Math.nextUp(3.5), 1, "4");
         digits(Math.nextDown(3.5), 1, "3");
+        // one digit behind tells that it is more than half-way
+        for (int n = 0; n < 10; n++) {
+            String zeros = "0".repeat(n);
+            digits(Double.parseDouble("25" + zeros + "1"), 1, "300" + zeros);
+            digits(Double.parseDouble("12345" + zeros + "1"), 4, "123500" + zeros);
+        }
         digits(0.15, 1, "0.1");
         digits(0.35, 1, "0.3");
         digits(0.25, 1, "0.2");
