@@ -187,6 +187,11 @@ public final class TermsNumeralTest {
             due(half, bits + (bits & 1));
             due("-" + half, bits + (bits & 1) | SIGN);
         }
+        for (int e = 0; e < 2047; e++) {
+            long odd = (long) e << 52 | 1;
+            due(halfAbove(odd).toPlainString(), odd + 1);
+            due(halfAbove(odd + 1).toPlainString(), odd + 1);
+        }
         // half-way to the least number, 0 is the even one
         due(halfAbove(0).toPlainString(), 0L);
     }

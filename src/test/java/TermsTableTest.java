@@ -16,6 +16,7 @@ public final class TermsTableTest {
         scientificWhateverPoint();
         zeroAmongScientific();
         widthOfLongest();
+        widthOfSmallerTable();
         twoBlanksBetween();
         widestOfAll();
         CHECK.end();
@@ -161,6 +162,23 @@ public final class TermsTableTest {
         due(2, "-0.0| 0.5", -0.0, 0.5);
         due(2, "1.0|0.5", 1, 0.5);
         due(1, "-1e-20|   1e0|   nan", -1e-20, 1, NAN);
+    }
+
+    /** Nothing of a table that had more rows, or wider ones, is left. */
+    private static void widthOfSmallerTable() {
+        for (int rows = 1; rows < 8; rows++) {
+            NumberText x = Use.table(1, 1, 1, 1, 1, 1, 1, 1, 1);
+            for (int row = 0; row < 8; row++) {
+                x.set(row, 0, Use.bits(1000000 + row));
+            }
+            CHECK.due("layout(7) of 8 rows", x.layout(7), 7);
+            x.table(rows, 2);
+            CHECK.due("layout(7) of " + rows + " rows", x.layout(7), 4);
+            CHECK.due("line 0", Use.line(x, 0), "0  0");
+            x.set(rows - 1, 1, Use.bits(-12));
+            CHECK.due("layout(2) of " + rows + " rows", x.layout(2), 6);
+            CHECK.due("last line", Use.line(x, rows - 1), "0  -12");
+        }
     }
 
     /** "A LINE are the texts of a row, with two blanks between." */
